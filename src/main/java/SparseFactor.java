@@ -10,6 +10,7 @@ import java.util.NoSuchElementException;
  */
 public final class SparseFactor {
     private static final int PRIME = 65521;
+    private static final int PRIME_BITS = 16;
     private static final int MOST_ROWS = 16;
     private static final int MOST_LEVELS = 6;
     private static final int NONE = -1;
@@ -252,8 +253,7 @@ public final class SparseFactor {
         needResidue(factor);
         needFactors();
         problem.addWeights(factor);
-        // An updating recurrence may meet a zero on its way though the new matrix has factors, so
-        // they are computed afresh.
+        // With so few rows the factors are found afresh: that gives what changing them would give.
         return factors.find(problem);
     }
 
@@ -413,12 +413,12 @@ public final class SparseFactor {
         return (int) ((long) a * b % PRIME);
     }
 
-    /** The residue whose product with a is 1, if a is not 0: the power of a to PRIME - 2. */
+    /** The residue whose product with a is 1, if a is not 0: by Fermat, a to the PRIME - 2. */
     private static int reciprocal(int a) {
         int result = 1;
         int square = a;
-        for (int exponent = PRIME - 2; exponent > 0; exponent >>= 1) {
-            if ((exponent & 1) == 1) {
+        for (int k = 0; k < PRIME_BITS; k++) {
+            if (has(PRIME - 2, k)) {
                 result = times(result, square);
             }
             square = times(square, square);
