@@ -401,6 +401,8 @@ public final class PromisesTest {
         checks.due("13 no links", unit(5).bandwidth(), 0);
         SparseFactor corner = linked(16, 0, 15);
         checks.due("13 greatest", corner.bandwidth(), 15);
+        corner.reverse();
+        checks.due("13 greatest, reversed", corner.bandwidth(), 15);
         SparseFactor fill = linked(4, 0, 1, 0, 2, 1, 3);
         checks.due("13 fill does not count", fill.bandwidth(), 2);
     }
@@ -410,6 +412,10 @@ public final class PromisesTest {
         checks.due("14 profile", x.profile(), 10);
         checks.due("14 no links", unit(5).profile(), 0);
         // Rows 2 and 3 reach back to 0 and 1, and row 1 to 0.
+        SparseFactor wide = linked(16, 0, 15);
+        checks.due("14 sixteen rows", wide.profile(), 15);
+        wide.reverse();
+        checks.due("14 row 0 at the end", wide.profile(), 15);
         SparseFactor y = linked(4, 0, 1, 0, 2, 1, 2, 1, 3);
         checks.due("14 by the smallest position", y.profile(), 5);
         y.reverse();
@@ -431,6 +437,11 @@ public final class PromisesTest {
         checks.due("15 the same", x.isJoined(1, 1), false);
         x.reverse();
         checks.due("15 no fill in this order", x.isJoined(1, 2), false);
+        SparseFactor last = linked(3, 2, 0, 2, 1);
+        last.reverse();
+        checks.due("15 fill of row 0", last.isJoined(0, 1), true);
+        last.swap(1, 2);
+        checks.due("15 fill of row 0, before row 1", last.isJoined(0, 1), true);
         SparseFactor chain = linked(5, 0, 1, 0, 2, 1, 3);
         checks.due("15 fill from fill", chain.isJoined(2, 3), true);
         for (int bad : new int[] {-1, 4, 16, Integer.MIN_VALUE, Integer.MAX_VALUE}) {
@@ -527,6 +538,7 @@ public final class PromisesTest {
         for (int i = 0; i < 7; i++) {
             checks.due("21 subtree", x.subtree(i), counts[i]);
         }
+        checks.due("21 sixteen rows", sized(16).subtree(15), 1);
         for (int bad : new int[] {-1, 7, 16, Integer.MIN_VALUE, Integer.MAX_VALUE}) {
             checks.dueThrow("21 row", INDEX, () -> x.subtree(bad));
         }
@@ -555,6 +567,7 @@ public final class PromisesTest {
         checks.due("23 none", x.meeting(0, 4), -1);
         checks.due("23 two roots", x.meeting(4, 6), -1);
         SparseFactor y = linked(4, 0, 3, 1, 3, 2, 3);
+        checks.due("23 with the first position", y.meeting(0, 0), 0);
         y.swap(2, 3);
         checks.due("23 in another order", y.meeting(0, 1), 3);
         checks.due("23 the last is the root", y.meeting(0, 2), 2);
@@ -724,8 +737,35 @@ public final class PromisesTest {
         checks.dueThrow("30 no factors", STATE, () -> x.update(1));
         checks.dueThrow("30 factor first", ARGUMENT, () -> x.update(65521));
         checks.due("30 refusals change nothing", x.digest(), before);
+        updateSixteenRows();
         updateInAnotherOrder();
         updateKeepsSolution();
+    }
+
+    /** The unit matrix and a matrix of ones together: its determinant is 17. */
+    private static SparseFactor unitAndOnes() {
+        SparseFactor x = unit(16);
+        x.factor();
+        for (int i = 0; i < 16; i++) {
+            x.setWeight(i, 1);
+        }
+        x.update(1);
+        return x;
+    }
+
+    private static void updateSixteenRows() {
+        SparseFactor x = unitAndOnes();
+        checks.due("30 sixteen rows", x.determinant(), 17);
+        for (int p = 0; p < 16; p++) {
+            checks.due("30 pivot " + p, (long) x.pivot(p) * (p + 1) % 65521, p + 2);
+            checks.due("30 entry", x.entry(p, p), 2);
+            checks.due("30 entry", x.entry(p, 15 - p), 1);
+            for (int q = 0; q < p; q++) {
+                checks.due("30 lower", (long) x.lower(p, q) * (q + 2) % 65521, 1);
+            }
+        }
+        checks.due("30 back", x.update(65520), 16);
+        checks.due("30 no links", x.linkCount(), 0);
     }
 
     private static void updateInAnotherOrder() {
@@ -858,6 +898,12 @@ public final class PromisesTest {
         x.factor();
         checks.due("34 the same in another order", x.inverse(1, 1), 1);
         checks.due("34 the same in another order", x.inverse(0, 1), 65519);
+        SparseFactor y = unitAndOnes();
+        for (int i = 0; i < 16; i++) {
+            for (int j = 0; j < 16; j++) {
+                checks.due("34 sixteen rows", y.inverse(i, j) * 17L % 65521, i == j ? 16 : 65520);
+            }
+        }
         for (int bad : new int[] {-1, 2, 16, Integer.MIN_VALUE, Integer.MAX_VALUE}) {
             checks.dueThrow("34 row", INDEX, () -> x.inverse(bad, 0));
             checks.dueThrow("34 column", INDEX, () -> x.inverse(0, bad));
