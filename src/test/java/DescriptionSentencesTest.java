@@ -398,6 +398,13 @@ public final class DescriptionSentencesTest {
         s.due("rows 2 and 1", x.lower(2, 0), 0);
         s.due("rows 2 and 0", x.lower(2, 1), 5);
         s.due("pivot(2) is 5 - 5 * 5 * 2", x.pivot(2), 65521 - 45);
+        SparseFactor turned = Solvers.diagonal(2, 3, 5);
+        turned.swap(0, 1);
+        turned.swap(1, 2);
+        turned.factor();
+        s.due("rows 1, 2, 0: pivot(0)", turned.pivot(0), 3);
+        s.due("rows 1, 2, 0: pivot(1)", turned.pivot(1), 5);
+        s.due("rows 1, 2, 0: pivot(2)", turned.pivot(2), 2);
     }
 
     private static void pivotsInTurn() {
@@ -442,6 +449,11 @@ public final class DescriptionSentencesTest {
         lost.setEntry(0, 0, 0);
         s.due("factor()", lost.factor(), 0);
         s.due("none left from before", lost.hasFactors(), false);
+        SparseFactor updated = Solvers.unit(16);
+        updated.factor();
+        updated.setWeight(15, 1);
+        s.due("by an update", updated.update(65520), 15);
+        s.due("none left from before the update", updated.hasFactors(), false);
     }
 
     private static void howLongFactorsStand() {

@@ -216,6 +216,10 @@ public final class LevelSentencesTest {
         x.factor();
         s.due("pivots in their order", x.digest(),
                 due(3, 3, 2, 0, 0, 0, 5, 1, 0, 0, 0, 0, 7, 0, 0, 0, 0, 1, 7, 5, 3));
+        x.swap(1, 2);
+        x.factor();
+        s.due("the rows 2, 0, 1 have the positions 0, 1, 2", x.digest(),
+                due(3, 3, 1, 0, 0, 0, 5, 2, 0, 0, 0, 0, 7, 0, 0, 0, 0, 1, 7, 3, 5));
     }
 
     private static void checksumOfSixteen() {

@@ -6,7 +6,7 @@ import java.util.List;
  * with another of the same history that had no such call.
  */
 final class UnchangedByRefusals {
-    private static final int STATES = 6;
+    private static final int STATES = 7;
 
     private interface Refused {
         long on(SparseFactor x);
@@ -50,6 +50,8 @@ final class UnchangedByRefusals {
                 return factorsAlone();
             case 4:
                 return withLevels(Solvers.ready(2), 6);
+            case 5:
+                return Solvers.ready(3);
             default:
                 return Solvers.sized(3);
         }
@@ -132,8 +134,8 @@ final class UnchangedByRefusals {
 
     /** The calls that are refused for what the object has not, or has too much of. */
     private void gatherStates(int state) {
-        boolean factors = state == 1 || state == 3 || state == 4;
-        boolean solution = state == 1 || state == 2 || state == 4;
+        boolean factors = state == 1 || state == 3 || state == 4 || state == 5;
+        boolean solution = state == 1 || state == 2 || state == 4 || state == 5;
         boolean levels = state == 1 || state == 2 || state == 4;
         if (!factors) {
             add("pivot(0)", Refusals.STATE, x -> x.pivot(0));
