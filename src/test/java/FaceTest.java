@@ -13,6 +13,7 @@ import java.util.regex.Pattern;
 /** The class's face is the document's and no more, and its text keeps to rules of LANGUAGE.md. */
 public final class FaceTest {
     private static final Path SOURCE = Path.of("src/main/java/SparseFactor.java");
+    private static final Path DOCUMENT = Path.of("../shared/DOC.md");
     private static final String INDEX = "IndexOutOfBoundsException";
     private static final String ARGUMENT = "IllegalArgumentException";
     private static final String STATE = "IllegalStateException";
@@ -64,12 +65,33 @@ public final class FaceTest {
     private static final Checks checks = new Checks();
 
     public static void main(String[] args) throws IOException {
+        document();
         classItself();
         methods();
         fields();
         classesInside();
         text();
         checks.end();
+    }
+
+    /** The list above is the one that stands in the document under 'The public face'. */
+    private static void document() throws IOException {
+        int count = 0;
+        for (String line : Files.readAllLines(DOCUMENT)) {
+            if (line.matches("    public \\w+ \\w+\\(.*\\).*;")) {
+                String want = count < FACE.length ? FACE[count] : "no more";
+                checks.due("line " + count + " of the face", asListed(line.trim()), want);
+                count++;
+            }
+        }
+        checks.due("methods in the document", count, FACE.length);
+    }
+
+    /** Takes the words public and throws, the parameters' names and packages out of a line. */
+    private static String asListed(String line) {
+        return line.replaceAll("public |throws |java\\.util\\.|;", "")
+                .replaceAll("\\bint \\w+(?=[,)])", "int").replace(", ", ",")
+                .replaceAll(",(?=\\w+Exception)", " ");
     }
 
     private static void classItself() {
@@ -134,7 +156,20 @@ public final class FaceTest {
             for (Field f : c.getDeclaredFields()) {
                 checks.due("no static state " + f, Modifier.isStatic(f.getModifiers()), false);
             }
+            for (Method m : c.getDeclaredMethods()) {
+                checks.due("a name of the face: " + m, isOnFace(m.getName()), false);
+                checks.due("seven parameters " + m, m.getParameterCount() <= 7, true);
+            }
         }
+    }
+
+    private static boolean isOnFace(String name) {
+        for (String line : FACE) {
+            if (line.contains(" " + name + "(")) {
+                return true;
+            }
+        }
+        return false;
     }
 
     private static void text() throws IOException {
